@@ -249,12 +249,40 @@ public final class DaysTest {
         Checks.due(22, "STORES of DAY 0", x.stores(0), 9);
         Checks.due(22, "never fed", x.mark(1, 5), 0);
         Checks.due(22, "nothing was sent", x.sums(), 0);
+        undoneOnDay200();
         OfferTurn changed = Checks.valley("f999o0653-");
         changed.rest(5);
         changed.patience(0, 1);
         changed.undo(4);
         Checks.due(22, "not reckoned anew by the new PATIENCE", changed.count(2), 0);
         Checks.due(22, "what was sent stays", changed.sums(), 20);
+    }
+
+    private static void undoneOnDay200() {
+        OfferTurn x = Checks.valley("f999v0155-o0155-");
+        for (int i = 0; i < 199; i++) x.offer(12);
+        x.store(0, 50);
+        x.keep(1);
+        x.store(0, 20);
+        x.offer(12);
+        Checks.due(24, "keep(2)", x.keep(2), 200);
+        x.store(0, 3);
+        Checks.due(22, "undo(199)", x.undo(199), 1);
+        Checks.due(22, "STORES ahead of DAY 199", x.stores(0), 20);
+        Checks.due(22, "GONE since DAY 2", x.count(2), 1);
+        Checks.due(22, "undo(0)", x.undo(0), 199);
+        Checks.due(22, "nobody is GONE", x.count(2), 0);
+        x.offer(3);
+        x.offer(3);
+        Checks.due(25, "on(2)", x.on(2), 200);
+        Checks.due(25, "DAY 0 of it", x.offered(0), 12);
+        Checks.due(25, "DAY 199 of it", x.offered(199), 12);
+        Checks.due(25, "it is FULL", x.offer(12), Checks.FULL);
+        x.undo(150);
+        Checks.told(25, x, "what was sent on DAY 2 of it", x.sent(2, 1), -5);
+        Checks.due(25, "on(1)", x.on(1), 199);
+        Checks.due(25, "its STORES", x.stores(0), 50);
+        Checks.due(25, "never fed", x.mark(0, 5), 0);
     }
 
     private static void sums() {
@@ -295,6 +323,7 @@ public final class DaysTest {
         Checks.due(25, "nobody is GONE", x.count(2), 0);
         Checks.due(25, "DAYS", x.offered(0), 4);
         Checks.due(25, "no further DAY", x.offered(1), Checks.FINDING);
+        Checks.due(25, "sent on it", x.sent(0, 1) + x.asked(), 5);
         Checks.due(25, "undo() goes on", x.undo(0), 1);
         Checks.due(25, "to what was ahead", x.stores(1), 9);
         Checks.due(25, "on(2) once more", x.on(2), 1);
@@ -305,6 +334,14 @@ public final class DaysTest {
         Checks.due(25, "all its sums", x.sums() + x.asked(), 5 + 4 + 3 + 3 + 4 * 5 + 2 * 2);
         Checks.due(25, "undo() there", x.undo(1), 7);
         Checks.due(25, "STORES of then", x.stores(2), 33);
+        OfferTurn fed = Checks.valley("f999v0155-j0155A");
+        fed.keep(0);
+        fed.offer(0);
+        fed.keep(1);
+        fed.on(0);
+        Checks.due(25, "not fed yet", fed.mark(0, 5) * 100 + fed.mark(1, 2), -9);
+        fed.on(1);
+        Checks.due(25, "fed there", fed.mark(0, 5) * 100 + fed.mark(1, 2), 100);
         OfferTurn y = Checks.valley("f999o0153-g1142-");
         y.offer(4);
         y.keep(2);

@@ -162,6 +162,16 @@ public final class PlansTest {
         Checks.plan(28, x, 0, 12, 0, 12);
         Checks.due(28, "safe(4, 3)", x.safe(4, 3), Checks.NONE);
         Checks.finds(28, x, "the row is missing still", x.at(3, 0), Checks.NOTHING);
+        Checks.told(26, x, "best() behind safe() counts HARM, too", x.best(1, 0), 5);
+        x.store(0, 0);
+        Checks.due(28, "safe(2, 0), none", x.safe(2, 0), Checks.NONE);
+        Checks.told(26, x, "best() behind safe() counts HARM, too", x.best(2, 0), 2);
+        x.store(0, 1);
+        OfferTurn foes = Checks.valley("f900g0150-g0130A");
+        Checks.due(28, "safe(1, 4)", foes.safe(1, 4), 1);
+        Checks.plan(28, foes, 4, 0);
+        Checks.told(26, foes, "best(1, 4)", foes.best(1, 4), 8);
+        Checks.plan(26, foes, 4, 3);
         x.store(1, 1);
         Checks.due(28, "safe(4, 0) with more", x.safe(4, 0), 1);
         Checks.plan(28, x, 0, 0, 12, 1, 12);
@@ -214,6 +224,9 @@ public final class PlansTest {
         two.rest(1);
         Checks.due(31, "less HARM, though as much GOOD", two.harm(1), 1);
         Checks.due(31, "of those", two.asked(), 9);
+        OfferTurn first = Checks.valley("f100g0192-g0135-");
+        first.rest(1);
+        Checks.due(31, "not the most GOOD of all", first.harm(1) * 100 + first.asked(), 203);
         OfferTurn most = Checks.valley("f100g0152-g0132-");
         most.rest(1);
         Checks.due(31, "as much HARM", most.harm(1), 2);

@@ -13,6 +13,7 @@ public final class RowsTest {
         faultsOfGods();
         valleys();
         valleysBeginAnew();
+        nothingIsLeftOfAnEarlierValley();
         gods();
         marks();
         marksOfForeignAndForgotten();
@@ -126,6 +127,8 @@ public final class RowsTest {
         Checks.finds(7, x, "mean of a missing row", x.mean(0), Checks.NOTHING);
         x.row(0, 0);
         Checks.finds(7, x, "mean of none", x.mean(0), Checks.NOUGHT);
+        Checks.fill(x, 0, 8);
+        Checks.told(7, x, "mean of one", x.mean(0), 8);
         Checks.fill(x, 0, 3, 4);
         Checks.told(7, x, "mean of 3, 4", x.mean(0), 3);
         Checks.fill(x, 0, -3, -4);
@@ -228,6 +231,8 @@ public final class RowsTest {
         fault(four + "  g0100-", 30);
         fault(four + "x", 28);
         fault("f123h0100-", 4);
+        fault("f123h", 4);
+        fault("f123 f", 5);
         fault("f123 G0100-", 5);
     }
 
@@ -267,6 +272,22 @@ public final class RowsTest {
         Checks.due(11, "STORES without GODS", x.stores(2), 6);
         Checks.due(11, "count(0)", x.count(0), 0);
         Checks.due(11, "nothing is kept then", x.count(5), 0);
+    }
+
+    private static void nothingIsLeftOfAnEarlierValley() {
+        OfferTurn x = Checks.valley("f999v0155-j0155A");
+        x.offer(0);
+        Checks.settle(x, "f999v0155-g0155-");
+        Checks.due(11, "never fed", x.mark(0, 5), 0);
+        Checks.due(11, "nobody GONE or JEALOUS", x.count(2) + x.count(3), 0);
+        x.offer(0);
+        Checks.due(11, "the other one minds nobody now", Checks.hunger(x, 1), 1);
+        Checks.settle(x, "f999g0155-g0155-");
+        x.rest(1);
+        Checks.due(11, "nobody sleeps now", x.may(0) * 10 + x.may(3), 11);
+        Checks.settle(x, "f999s0155-v0155-");
+        x.rest(1);
+        Checks.due(11, "both sleep", x.may(0) + x.may(3), -18);
     }
 
     private static void gods() {
@@ -310,6 +331,11 @@ public final class RowsTest {
         Checks.due(13, "two DAYS ago", x.mark(2, 2), 2);
         x.undo(0);
         Checks.due(13, "undone", x.mark(2, 2), Checks.NONE);
+        x.rest(1);
+        x.offer(0);
+        x.rest(3);
+        x.undo(4);
+        Checks.due(13, "fed on DAY 1, three DAYS from then", x.mark(2, 2), 2);
         OfferTurn alone = Checks.valley("f999g0555-j0555-");
         alone.offer(0);
         Checks.due(13, "one who can ABIDE all", alone.mark(1, 2), Checks.NONE);
