@@ -5,6 +5,8 @@ final class Checks {
 
     private static int made = 0;
     private static int wrong = 0;
+    private static int promise = 0;
+    private static String words = "";
 
     private Checks() {
     }
@@ -14,6 +16,16 @@ final class Checks {
         if (got == want) return;
         wrong++;
         System.out.println("promise " + promise + ": " + call + " answered " + got + ", due is " + want);
+    }
+
+    /** What the checks from here on hold the program to: words of the document. What stands ahead of promise 1 is 0. */
+    static void says(int ofPromise, String ofDocument) {
+        promise = ofPromise;
+        words = ofDocument;
+    }
+
+    static void due(String call, long got, long want) {
+        due(promise, "\"" + words + "\": " + call, got, want);
     }
 
     /** A call that answers 1 and tells by asked(). */
