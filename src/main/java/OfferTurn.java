@@ -869,13 +869,14 @@ public final class OfferTurn {
     /** All that a DAY changes: as it is ahead of DAY day. */
     private static final class Scene {
         /** How many ints save() takes. */
-        static final int WIDTH = 5 + FOODS + MOST_GODS;
+        static final int WIDTH = 4 + FOODS + MOST_GODS;
 
         int day = 0;
         int gone = 0;
         int everFed = 0;
         int good = 0;
         int harm = 0;
+        /** All FOOD since forgetSums(): only PLANS ask for it, so save() leaves it out. */
         int taken = 0;
         final int[] stores = new int[FOODS];
         final int[] hungers = new int[MOST_GODS];
@@ -917,9 +918,8 @@ public final class OfferTurn {
             lines[start + 1] = everFed;
             lines[start + 2] = good;
             lines[start + 3] = harm;
-            lines[start + 4] = taken;
-            System.arraycopy(stores, 0, lines, start + 5, FOODS);
-            System.arraycopy(hungers, 0, lines, start + 5 + FOODS, MOST_GODS);
+            System.arraycopy(stores, 0, lines, start + 4, FOODS);
+            System.arraycopy(hungers, 0, lines, start + 4 + FOODS, MOST_GODS);
         }
 
         void load(int[] lines, int start) {
@@ -928,9 +928,8 @@ public final class OfferTurn {
             everFed = lines[start + 1];
             good = lines[start + 2];
             harm = lines[start + 3];
-            taken = lines[start + 4];
-            System.arraycopy(lines, start + 5, stores, 0, FOODS);
-            System.arraycopy(lines, start + 5 + FOODS, hungers, 0, MOST_GODS);
+            System.arraycopy(lines, start + 4, stores, 0, FOODS);
+            System.arraycopy(lines, start + 4 + FOODS, hungers, 0, MOST_GODS);
         }
 
         boolean isGone(int g) {

@@ -40,6 +40,7 @@ public final class EdgesOfDaysTest {
         kept();
         notKept();
         on();
+        onToOtherDays();
         notOn();
         Checks.end();
     }
@@ -176,6 +177,15 @@ public final class EdgesOfDaysTest {
         gone.call("rest", 1);
         gone.refuses(Checks.STATE, "offer", 0);
         gone.answers(1, "offer", 3);
+        Subject asleep = Subject.valley("f900s0153-t0153A");
+        asleep.answers(2, "may", 0);
+        asleep.call("rest", 1);
+        asleep.refuses(Checks.NONE, "may", 0);
+        asleep.refuses(Checks.STATE, "offer", 0);
+        Subject left = Subject.valley("f900o0153-t0153A");
+        left.call("rest", 3);
+        left.refuses(Checks.NONE, "may", 0);
+        left.refuses(Checks.STATE, "offer", 0);
     }
 
     private static void othersWhoAreNotFed() {
@@ -571,6 +581,23 @@ public final class EdgesOfDaysTest {
         x.answers(1, "undo", 2);
         x.hungers(2, 1);
         x.answersAndTells(5, 3, "sums");
+        x.call("rest", 3);
+        x.answers(2, "undo", 3);
+        x.hungers(Checks.NONE, 2);
+        x.answersAndTells(5, 6, "sums");
+        x.restTill(199);
+        x.call("undo", 198);
+        x.call("offer", 4);
+        x.call("store", 2, 33);
+        x.call("rest", 1);
+        x.call("store", 2, 44);
+        x.answers(1, "undo", 199);
+        x.stores(9, 8, 33);
+        x.answersAndTells(5, 6 + 3, "sums");
+        x.answers(1, "mark", 1, 5);
+        x.answers(1, "undo", 198);
+        x.stores(9, 9, 9);
+        x.answers(0, "mark", 1, 5);
     }
 
     private static void notUndone() {
@@ -670,6 +697,43 @@ public final class EdgesOfDaysTest {
         x.tells(6, "god", 0, 2);
         x.answers(200, "on", 0);
         x.answers(3, "on", 2);
+    }
+
+    private static void onToOtherDays() {
+        Checks.says(25, "(PATIENCES, STORES, all DAYS, too)");
+        Subject x = Subject.valley("f999g0153-");
+        x.call("offer", 0);
+        x.call("rest", 3);
+        x.call("keep", 0);
+        x.restTill(199);
+        x.call("offer", 1);
+        x.call("keep", 2);
+        x.call("undo", 0);
+        x.call("offer", 2);
+        x.call("offer", 12);
+        x.call("offer", 12);
+        x.call("keep", 1);
+        x.answers(4, "on", 0);
+        int[] numbers = {0, 12, 12, 12};
+        int[] sent = {5, 5, -3, -3};
+        for (int day = 0; day < 4; day++) {
+            x.answers(numbers[day], "offered", day);
+            x.tells(sent[day], "sent", day, 0);
+        }
+        x.answers(3, "undo", 1);
+        x.hungers(0);
+        x.stores(8, 9, 9);
+        x.answers(200, "on", 2);
+        x.answers(1, "offered", 199);
+        x.tells(-3, "sent", 198, 0);
+        x.answers(1, "undo", 199);
+        x.stores(8, 9, 9);
+        x.answers(198, "undo", 1);
+        x.answers(0, "offered", 0);
+        x.answers(3, "on", 1);
+        x.answers(2, "offered", 0);
+        x.answers(3, "undo", 0);
+        x.stores(9, 9, 9);
     }
 
     private static void notOn() {

@@ -121,6 +121,9 @@ public final class EdgesOfPlansTest {
         x.holds(5, 12, 0, 12);
         x.answers(2, "count", 6);
         x.call("store", 0, 0);
+        x.refuses(Checks.NONE, "safe", 3, 0);
+        x.tells(2, "best", 2, 0);
+        x.holds(0, 12, 12);
         x.call("rest", 9);
         x.tells(-3, "best", 1, 5);
         x.holds(5, 12);
@@ -209,6 +212,13 @@ public final class EdgesOfPlansTest {
         x.call("store", 1, 1);
         x.answers(1, "safe", 4, 0);
         x.holds(0, 0, 12, 1, 12);
+        Subject worse = Subject.valley("f900g0150-g0130A");
+        worse.answers(1, "safe", 1, 0);
+        worse.holds(0, 0);
+        worse.answers(1, "safe", 4, 0);
+        worse.holds(0, 0, 0, 0, 0);
+        worse.tells(8, "best", 1, 0);
+        worse.holds(0, 3);
         Subject harmless = Subject.valley("f000g0150-g0670-");
         harmless.call("rest", 2);
         harmless.answers(1, "safe", 4, 0);
@@ -294,7 +304,9 @@ public final class EdgesOfPlansTest {
         x.answers(1, "food", 2);
         x.answers(2, "food", 3);
         Subject twins = Subject.valley("f900g0153-t0153A");
-        twins.call("rest", 1);
+        twins.call("offer", 0);
+        twins.call("offer", 2);
+        twins.call("rest", 2);
         twins.answers(2, "food", 1);
         twins.answers(4, "food", 3);
         Subject most = Subject.valley("f990g1153-t1153At1153At1153A");
@@ -336,6 +348,9 @@ public final class EdgesOfPlansTest {
         Subject alike = Subject.valley("f100g0132-g0152-");
         alike.call("rest", 1);
         alike.answersAndTells(2, 5, "harm", 1);
+        Subject more = Subject.valley("f100g0132-g0191-");
+        more.call("rest", 1);
+        more.answersAndTells(1, 3, "harm", 1);
         Subject less = Subject.valley("f100g0191-g0132-");
         less.call("rest", 1);
         less.answersAndTells(1, 3, "harm", 1);
@@ -358,6 +373,11 @@ public final class EdgesOfPlansTest {
         Subject second = Subject.valley("f900g0153-g0152-");
         second.answersAndTells(1, 7, "starve", 2);
         second.answersAndTells(1, 30 - (15 + 5 - 2 - 2), "starve", 3);
+        Subject hungry = Subject.valley("f900g0153-g0142-");
+        hungry.call("rest", 1);
+        hungry.answersAndTells(1, 0, "starve", 1);
+        hungry.call("rest", 1);
+        hungry.answersAndTells(1, 0, "starve", 1);
         Subject gone = Subject.valley("f900o0100-g0153-");
         gone.call("rest", 3);
         gone.answersAndTells(1, 8, "starve", 1);
