@@ -201,7 +201,8 @@ public final class EdgesOfBooksTest {
     }
 
     private static void whichTellsMost() {
-        Checks.says(38, "Which OFFERING (number; that can be) on the next DAY tells most of a GOD's PATIENCE: by whose WORTH, "
+        Checks.says(38, "Which OFFERING (number; that can be) on the next DAY tells most of a GOD's PATIENCE: by "
+            + "whose WORTH, "
             + "whichever it is, fewest of PATIENCES 1 .. 6 are left at most (the first); how many at most by asked().");
         int[] tellings = {0, 12, 12, 12, 12, 1, 1, 1, 1, 0};
         int[] left = {6, 5, 4, 3, 4, 4, 3, 4, 5, 6};
@@ -273,8 +274,10 @@ public final class EdgesOfBooksTest {
     }
 
     private static void yearsAreDrawn() {
-        Checks.says(39, "Years drawn: n (1 .. 100) DAYS by a seed (1 .. 2147483646), from as it is: a number comes from the one ahead "
-            + "by 48271 times it modulo 2147483647; DAY by DAY one: it modulo 13 is the OFFERING, if that can be, else none:");
+        Checks.says(39, "Years drawn: n (1 .. 100) DAYS by a seed (1 .. 2147483646), from as it is: a number comes "
+            + "from the one ahead "
+            + "by 48271 times it modulo 2147483647; DAY by DAY one: it modulo 13 is the OFFERING, if that can be, "
+            + "else none:");
         for (int seed : new int[] {1, 2, 48271, 77777, 2147483645, 2147483646}) {
             year("f999g0653-t1442Aj2533Bs0524C", seed, 100);
             year("f999o0297-v1386A", seed, 60);

@@ -119,7 +119,8 @@ public final class EdgesOfDaysTest {
     }
 
     private static void oneOrMoreAreTaken() {
-        Checks.says(0, "(a) The OFFERING: one of the FOOD is taken from STORES, and one more for each other that is fed by it:");
+        Checks.says(0, "(a) The OFFERING: one of the FOOD is taken from STORES, and one more for each other that is "
+            + "fed by it:");
         Subject x = Subject.valley("f999g0153-t0153At0153At0153A");
         x.call("offer", 1);
         x.stores(9, 5, 9);
@@ -244,7 +245,8 @@ public final class EdgesOfDaysTest {
     }
 
     private static void hungerByNeighbours() {
-        Checks.says(0, "Of each that can't ABIDE one of those that are fed (not GONE, awake, not fed itself) it is 1 more besides;");
+        Checks.says(0, "Of each that can't ABIDE one of those that are fed (not GONE, awake, not fed itself) it is 1 "
+            + "more besides;");
         Subject x = Subject.valley("f999g0153-t0153As0153Bg0153A");
         x.call("offer", 0);
         x.hungers(0, 0, 2, 2);
@@ -293,7 +295,8 @@ public final class EdgesOfDaysTest {
     }
 
     private static void whatIsSent() {
-        Checks.says(0, "(c) Each that is not GONE and does not sleep sends: GOOD, if HUNGER is not above its PATIENCE, else HARM");
+        Checks.says(0, "(c) Each that is not GONE and does not sleep sends: GOOD, if HUNGER is not above its "
+            + "PATIENCE, else HARM");
         for (int patience = 1; patience <= 6; patience++) {
             Subject x = Subject.valley("f999g0" + patience + "53-");
             for (int day = 0; day < 8; day++) x.tells(day + 1 <= patience ? 5 : -3, "offer", 12);
@@ -362,7 +365,8 @@ public final class EdgesOfDaysTest {
     }
 
     private static void numbers() {
-        Checks.says(0, "A number of an OFFERING: 3 times the GOD and the FOOD (of GODS that there are; else it is none such); 12: none.");
+        Checks.says(0, "A number of an OFFERING: 3 times the GOD and the FOOD (of GODS that there are; else it is "
+            + "none such); 12: none.");
         String gods = "";
         for (int many = 1; many <= 4; many++) {
             gods += "g0153-";
@@ -732,6 +736,9 @@ public final class EdgesOfDaysTest {
         x.answers(0, "offered", 0);
         x.answers(3, "on", 1);
         x.answers(2, "offered", 0);
+        x.answers(200, "on", 2);
+        x.answers(0, "offered", 0);
+        x.answers(3, "on", 1);
         x.answers(3, "undo", 0);
         x.stores(9, 9, 9);
     }

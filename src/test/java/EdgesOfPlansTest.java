@@ -110,7 +110,8 @@ public final class EdgesOfPlansTest {
     }
 
     private static void bestPlans() {
-        Checks.says(26, "The most WORTH of PLANS of n (1 .. 3) DAYS by asked(); the first such PLAN comes to a ROW (anew): 1.");
+        Checks.says(26, "The most WORTH of PLANS of n (1 .. 3) DAYS by asked(); the first such PLAN comes to a ROW "
+            + "(anew): 1.");
         Subject x = Subject.valley(ONE);
         x.call("row", 0, 60);
         x.tells(5, "best", 1, 0);
@@ -146,7 +147,8 @@ public final class EdgesOfPlansTest {
     }
 
     private static void triesOfNoneToThirty() {
-        Checks.says(27, "WORTH of a PLAN in a ROW (0 to 30 numbers), until one can't be: how many DAYS went; WORTH by asked().");
+        Checks.says(27, "WORTH of a PLAN in a ROW (0 to 30 numbers), until one can't be: how many DAYS went; WORTH "
+            + "by asked().");
         Subject x = Subject.valley("f100g0153-o0142-");
         x.call("row", 0, 0);
         x.answersAndTells(0, 0, "tries", 0);
@@ -294,7 +296,8 @@ public final class EdgesOfPlansTest {
     }
 
     private static void leastFood() {
-        Checks.says(30, "The least FOOD (of all FOODS together) that a PLAN of n (1 .. 3) DAYS that sends HARM 0 in all takes.");
+        Checks.says(30, "The least FOOD (of all FOODS together) that a PLAN of n (1 .. 3) DAYS that sends HARM 0 in "
+            + "all takes.");
         Subject x = Subject.valley("f110g0153-");
         x.answers(0, "food", 1);
         x.answers(1, "food", 2);
@@ -362,7 +365,8 @@ public final class EdgesOfPlansTest {
     }
 
     private static void whoIsFedLast() {
-        Checks.says(32, "Famine: who is fed last: the GOD (not GONE; the first) for which the most WORTH of PLANS of n (1 .. 3) DAYS "
+        Checks.says(32, "Famine: who is fed last: the GOD (not GONE; the first) for which the most WORTH of PLANS of "
+            + "n (1 .. 3) DAYS "
             + "in which it is never fed (nor with another) is least below that of best(); how much by asked().");
         Subject x = Subject.valley(ONE);
         x.answersAndTells(0, 0, "starve", 1);
@@ -402,7 +406,8 @@ public final class EdgesOfPlansTest {
     }
 
     private static void whatAGodIsWorth() {
-        Checks.says(33, "What a GOD is worth: by how much the most WORTH of PLANS of n (1 .. 3) DAYS is more than if it were GONE,");
+        Checks.says(33, "What a GOD is worth: by how much the most WORTH of PLANS of n (1 .. 3) DAYS is more than if "
+            + "it were GONE,");
         Subject x = Subject.valley(ONE);
         x.tells(5, "price", 0, 1);
         x.tells(10, "price", 0, 2);
@@ -487,8 +492,10 @@ public final class EdgesOfPlansTest {
     }
 
     private static void turnsOfTwo() {
-        Checks.says(35, "Two villages offer in turn, DAY by DAY (the first one on the next DAY), for n (0 .. 3) DAYS: the first wants "
-            + "what GODS of a set send (GOOD less HARM) to be much, the other one little: what it comes to, told by asked(): 1;");
+        Checks.says(35, "Two villages offer in turn, DAY by DAY (the first one on the next DAY), for n (0 .. 3) "
+            + "DAYS: the first wants "
+            + "what GODS of a set send (GOOD less HARM) to be much, the other one little: what it comes to, told by "
+            + "asked(): 1;");
         Subject x = Subject.valley(ONE);
         x.tells(0, "turns", 1, 0);
         x.tells(5, "turns", 1, 1);

@@ -308,7 +308,8 @@ public final class EdgesOfTellingTest {
     }
 
     private static void whatTells() {
-        Checks.says(40, "What the latest lay(), at(), mean(), god(), offer(), rest(), sent(), sums(), best(), tries(), harm(), starve(), "
+        Checks.says(40, "What the latest lay(), at(), mean(), god(), offer(), rest(), sent(), sums(), best(), "
+            + "tries(), harm(), starve(), "
             + "price(), altar(), turns(), whose(), ask(), year()");
         Subject x = Subject.valley("f100g0253-");
         x.fill(0, 7, 9);
@@ -411,7 +412,8 @@ public final class EdgesOfTellingTest {
     }
 
     private static void counts() {
-        Checks.says(43, "0 GODS, 1 the DAY, 2 how many are GONE, 3 JEALOUS ones (FOREIGN, too), 4 SLEEPERS (FORGOTTEN, too), "
+        Checks.says(43, "0 GODS, 1 the DAY, 2 how many are GONE, 3 JEALOUS ones (FOREIGN, too), 4 SLEEPERS "
+            + "(FORGOTTEN, too), "
             + "5 kept VALLEYS, 6 ROWS, 7 TEXTS that are there.");
         String[] kinds = {"g", "tA", "j", "s", "o", "v"};
         int[][] want = {{2, 0, 0, 0, 0, 0, 0, 1}, {2, 0, 0, 0, 0, 0, 0, 1}, {2, 0, 0, 1, 0, 0, 0, 1}, {2, 0, 0, 0, 1, 0, 0, 1},
@@ -504,8 +506,10 @@ public final class EdgesOfTellingTest {
     }
 
     private static void digestOfAll() {
-        Checks.says(46, "count() 0 to 7; STORES; of each GOD god() 0 to 6, whether it was ever fed (1, 0); all GOOD that was sent, all HARM; "
-            + "of each DAY its OFFERING; of each kept VALLEY its DAY (-1: missing); of each ROW its size (-1: missing) and places, "
+        Checks.says(46, "count() 0 to 7; STORES; of each GOD god() 0 to 6, whether it was ever fed (1, 0); all GOOD "
+            + "that was sent, all HARM; "
+            + "of each DAY its OFFERING; of each kept VALLEY its DAY (-1: missing); of each ROW its size (-1: "
+            + "missing) and places, "
             + "of each TEXT likewise.");
         Subject x = Subject.valley("f987o0153-v1142At2133Bs0524C");
         x.fill(1, LEAST, MOST);
@@ -529,7 +533,8 @@ public final class EdgesOfTellingTest {
     }
 
     private static void digestTellsMissingFromEmpty() {
-        Checks.says(46, "of each kept VALLEY its DAY (-1: missing); of each ROW its size (-1: missing) and places, of each TEXT likewise.");
+        Checks.says(46, "of each kept VALLEY its DAY (-1: missing); of each ROW its size (-1: missing) and places, "
+            + "of each TEXT likewise.");
         Subject x = Subject.valley("f000g0153-");
         int[][] rows = new int[6][];
         int[][] texts = {null, null, null, {}};
