@@ -75,6 +75,8 @@ public final class LanguageTest {
 
     private static void nested() {
         Class<?>[] inside = OfferTurn.class.getDeclaredClasses();
+        Set<String> names = new TreeSet<>();
+        for (Method m : OfferTurn.class.getDeclaredMethods()) if (Modifier.isPublic(m.getModifiers())) names.add(m.getName());
         must(inside.length < 12, "too many classes");
         for (Class<?> c : inside) {
             must(Modifier.isStatic(c.getModifiers()) && !Modifier.isPublic(c.getModifiers()), c + " is static, not public");
@@ -84,6 +86,10 @@ public final class LanguageTest {
                 else own++;
             }
             must(own <= 20, c + " has too many fields");
+            for (Method m : c.getDeclaredMethods()) {
+                must(!names.contains(m.getName()), c + " has a method with the name of a public one: " + m.getName());
+                must(m.getParameterCount() <= 7, m + " takes too many");
+            }
         }
     }
 

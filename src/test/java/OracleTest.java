@@ -5,7 +5,10 @@ import java.util.ArrayList;
 import java.util.List;
 import java.util.Random;
 
-/** Runs of random calls, each made of an OfferTurn and of a SlowOffer: all that they answer and tell must agree. */
+/**
+ * Runs of random calls, each made of an OfferTurn and of a SlowOffer: all that they answer and tell must agree. May be
+ * told how many runs, and from which seed on.
+ */
 public final class OracleTest {
     private static final int RUNS = 1500;
     private static final int CALLS = 500;
@@ -32,8 +35,10 @@ public final class OracleTest {
         }
         CALLED.sort((a, b) -> a.getName().compareTo(b.getName()));
         for (Method m : CALLED) SLOW.add(SlowOffer.class.getDeclaredMethod(m.getName(), m.getParameterTypes()));
-        for (int run = 0; run < RUNS; run++) new OracleTest(run).go();
-        System.out.println(RUNS + " runs agree");
+        int runs = args.length > 0 ? Integer.parseInt(args[0]) : RUNS;
+        int first = args.length > 1 ? Integer.parseInt(args[1]) : 0;
+        for (int run = 0; run < runs; run++) new OracleTest(first + run).go();
+        System.out.println(runs + " runs agree");
     }
 
     private void go() throws ReflectiveOperationException {
